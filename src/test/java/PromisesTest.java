@@ -1,87 +1,5 @@
-import java.nio.charset.StandardCharsets;
-
 /** The promises 1 to 20, one by one: ordinary inputs, the edges that the document names, wrong inputs. */
-public final class PromisesTest {
-    private static final String ARGUMENT = "IllegalArgumentException";
-    private static final String STATE = "IllegalStateException";
-    private static final String BOUNDS = "IndexOutOfBoundsException";
-
-    private static int wrong = 0;
-
-    interface Call {
-        long answer();
-    }
-
-    static void due(String what, long got, long want) {
-        if (got != want) {
-            wrong++;
-            System.out.println(what + " answered " + got + ", due is " + want);
-        }
-    }
-
-    static void due(String what, String got, String want) {
-        if (!got.equals(want)) {
-            wrong++;
-            System.out.println(what + " answered " + got + ", due is " + want);
-        }
-    }
-
-    static void refused(String what, String want, Call call) {
-        String got = "nothing";
-        try {
-            call.answer();
-        } catch (RuntimeException e) {
-            got = e.getClass().getSimpleName();
-        }
-        if (!got.equals(want)) {
-            wrong++;
-            System.out.println(what + " threw " + got + ", due is " + want);
-        }
-    }
-
-    static MenuPlanner with(int... counts) {
-        MenuPlanner x = new MenuPlanner();
-        for (int c : counts) x.command(c, 0);
-        return x;
-    }
-
-    static MenuPlanner equalOnes(int n) {
-        MenuPlanner x = new MenuPlanner();
-        for (int c = 0; c < n; c++) x.command(1, 0);
-        return x;
-    }
-
-    static void feedText(MenuPlanner x, String text) {
-        byte[] b = text.getBytes(StandardCharsets.ISO_8859_1);
-        for (int from = 0; from < b.length; from += 20) {
-            int[] n = new int[5];
-            for (int i = 0; i < 20; i++) n[i / 4] = n[i / 4] << 8 | (from + i < b.length ? b[from + i] & 255 : 0);
-            x.feed(n[0], n[1], n[2], n[3], n[4]);
-        }
-    }
-
-    static int tellText(MenuPlanner x, String text) {
-        feedText(x, text);
-        return x.tell(text.length());
-    }
-
-    static void faulty(MenuPlanner x, String text, int number, int place) {
-        due("tell of " + text, tellText(x, text), number - 10);
-        due("fault of " + text, x.fault(), place);
-    }
-
-    static String printed(MenuPlanner x) {
-        int length = x.print();
-        StringBuilder text = new StringBuilder();
-        for (int k = 0; k < length; k++) text.append((char) x.octet(k));
-        return text.toString();
-    }
-
-    static void told(String text, MenuPlanner x) {
-        due("tell of " + text, tellText(x, text), 0);
-        due("fault of " + text, x.fault(), -1);
-    }
-
+public final class PromisesTest extends Calls {
     static void newObject1() {
         MenuPlanner x = new MenuPlanner();
         for (int what = 0; what < 4; what++) due("1 told " + what, x.told(what), 0);
@@ -281,13 +199,6 @@ public final class PromisesTest {
         String wide = "(" + balanced(0, 40) + "(".repeat(39);
         faulty(x, wide, 1, wide.length());
         faulty(x, wide + "(", 4, wide.length());
-    }
-
-    /** As many MENUS as 40 COMMANDS can have, none of them deep. */
-    static String balanced(int from, int to) {
-        if (to - from == 1) return Integer.toString(from);
-        int middle = (from + to) / 2;
-        return "(" + balanced(from, middle) + " " + balanced(middle, to) + ")";
     }
 
     static void plan9() {
@@ -612,7 +523,6 @@ public final class PromisesTest {
         exchange18();
         swap19();
         told20();
-        System.out.println(wrong == 0 ? "PromisesTest: all answers are as due" : "PromisesTest: " + wrong + " answers are not as due");
-        if (wrong != 0) System.exit(1);
+        end("PromisesTest");
     }
 }
