@@ -69,6 +69,14 @@ public final class ChoiceBoundsTest extends Calls {
         planned("(0 1 2 3 4)", 0, zeros);
     }
 
+    /** ((0 1) (2 3) 4), whose first ITEM has fewer COMMANDS, costs 32 too. */
+    static void theFewestMenusAreAskedBeforeTheFirstItem() {
+        MenuPlanner x = with(2, 3, 2, 1, 3);
+        x.set(1, 0);
+        x.set(2, 3);
+        planned("((0 1 2) 3 4)", 32, x);
+    }
+
     /** (0 (1 2)) and ((0 1) 2) both cost 21. */
     static void planIsTheOneWhoseFirstItemHasTheFewestCommands() {
         MenuPlanner x = with(2, 5, 1);
@@ -188,6 +196,16 @@ public final class ChoiceBoundsTest extends Calls {
         due("two of three", y.misled(3), 0);
     }
 
+    static void theHeadingIsOfItsOwnCommandsAlone() {
+        MenuPlanner x = new MenuPlanner();
+        for (int words : new int[] {1, 1, 2, 2, 4}) x.command(1, words);
+        told("((0 1) (2 3) 4)", x);
+        for (int turn = 0; turn < 3; turn++) {
+            for (int c = 0; c < 4; c++) due("only in its own MENU", x.misled(c), 1);
+            due("at none", x.misled(4), -1);
+        }
+    }
+
     static void theHeadingOfACommandIsItsWords() {
         MenuPlanner x = new MenuPlanner();
         x.command(1, 7);
@@ -294,6 +312,10 @@ public final class ChoiceBoundsTest extends Calls {
     static void aRowMayBeShorterThanK() {
         MenuPlanner x = flat(0, 1, 2);
         for (int k = 1; k <= 3; k++) row("two COMMANDS", x, k, 4, 0, 1);
+        MenuPlanner last = flat(0, 9, 5, 7);
+        for (int k = 1; k <= 3; k++) row("the last two", last, k, 38, 1, 2);
+        MenuPlanner two = flat(0, 9, 3, 5, 4);
+        for (int k = 2; k <= 3; k++) row("two", two, k, 43, 1, 2, 1, 3);
         MenuPlanner sorted = flat(0, 9, 8, 7);
         for (int k = 0; k <= 3; k++) row("nothing to gain", sorted, k, 46);
         MenuPlanner one = flat(0, 5);
@@ -361,6 +383,29 @@ public final class ChoiceBoundsTest extends Calls {
         row("three", flat(0, 1000, 2000, 100, 300, 0, 6, 3, 2), 3, cost - 1000 - 200 - 6, 0, 1, 2, 3, 4, 5);
     }
 
+    /** Of 0, 1 and 2 the least used changes twice, so the second EXCHANGE has lower numbers than the first. */
+    static void theSecondExchangeMayHaveLowerNumbers() {
+        String[] texts = {"(2 0 1 3 4)", "(2 1 0 3 4)", "(1 2 0 3 4)"};
+        int[][] counts = {{10, 30, 20, 2, 1}, {30, 10, 20, 2, 1}, {30, 20, 10, 2, 1}};
+        int[][] rows = {{0, 2, 0, 1}, {1, 2, 0, 1}, {1, 2, 0, 2}};
+        for (int i = 0; i < 3; i++) {
+            MenuPlanner x = with(counts[i]);
+            x.set(0, 100);
+            x.set(2, 9);
+            told(texts[i], x);
+            for (int k = 2; k <= 3; k++) row(texts[i], x, k, 100 * (30 + 40 + 30 + 8 + 5) + 70, rows[i]);
+        }
+    }
+
+    static void theFirstRowIsAskedAnewWhenCountsChange() {
+        MenuPlanner x = flat(0, 0, 0, 3, 2);
+        row("before", x, 1, 9 + 8 - 6, 0, 2);
+        x.count(1, 6);
+        row("then", x, 1, 12 + 9 + 8 - 6, 0, 1);
+        x.count(1, 0);
+        row("and as before", x, 1, 9 + 8 - 6, 0, 2);
+    }
+
     static void theFirstRowIsNotTheOneThatGainsMostFirst() {
         MenuPlanner x = flat(0, 8, 9, 1, 7);
         row("one", x, 1, 8 + 18 + 3 + 28 - 6, 2, 3);
@@ -385,6 +430,21 @@ public final class ChoiceBoundsTest extends Calls {
         for (int c = 0; c < 12; c++) x.count(c, 100 * c);
         due("12 COMMANDS, each with a COUNT of its own", x.best(0), x.cost());
         due("three EXCHANGES", x.exchange(3, 2, 1), 9);
+    }
+
+    /** The STEPS grow and the COUNTS fall from one COMMAND to the next, but for one pair. */
+    static void bestFindsEachOfTheExchangesOf12Commands() {
+        for (int a = 0; a < 12; a++) {
+            for (int b = a + 1; b < 12; b++) {
+                MenuPlanner x = new MenuPlanner();
+                for (int c = 0; c < 12; c++) x.command(1200 - 100 * c, 0);
+                x.set(3, 0);
+                told("(0 1 2 (3 4 5 (6 7 8 (9 10 11))))", x);
+                long least = x.cost();
+                x.swap(a, b);
+                row("one", x, 1, least, a, b);
+            }
+        }
     }
 
     static void bestIsNotToldForMoreThan12() {
